@@ -995,33 +995,33 @@ public final class BackLenses {
             lastTold = false;
             cellsTold = 0;
             target.empty();
-            readLines();
-            if (found == NO_FAULT && tellsWhatIsNot()) {
+            boolean goesOn = true;
+            // A line takes bytes, so there are never more of them than bytes.
+            for (int i = 0; i <= length && goesOn; i++) {
+                goesOn = takeToken() && kind != END && takeLine();
+                if (goesOn) {
+                    lines++;
+                }
+            }
+            if (found == NO_FAULT && !allIsThere()) {
                 refuse(6, length);
             }
             return found;
         }
 
-        private void readLines() {
-            // A line takes bytes, so there are never more of them than bytes.
-            for (int i = 0; i <= length; i++) {
-                if (!takeToken() || kind == END || !takeLine()) {
-                    return;
-                }
-                lines++;
-            }
-        }
-
-        private boolean tellsWhatIsNot() {
+        private boolean allIsThere() {
             int cells = target.cells();
-            boolean wrong = cellsTold >>> cells != 0;
             for (int i = 0; i < target.changes.size; i++) {
-                wrong |= !target.hasDay(target.changes.number(i, 0)) || !target.hasCell(target.changes.number(i, 1));
+                if (!target.hasDay(target.changes.number(i, 0)) || !target.hasCell(target.changes.number(i, 1))) {
+                    return false;
+                }
             }
             for (int l = 0; l < target.lenses.size; l++) {
-                wrong |= !target.hasDay(target.lenses.number(l, 0)) || target.lenses.number(l, 1) >>> cells != 0;
+                if (!target.hasDay(target.lenses.number(l, 0)) || target.lenses.number(l, 1) >>> cells != 0) {
+                    return false;
+                }
             }
-            return wrong;
+            return cellsTold >>> cells == 0;
         }
 
         private boolean refuse(int why, int where) {
