@@ -16,13 +16,10 @@ public final class BackLenses {
     private static final long PARTS = 1000000L;
 
     private final Book book;
-    private final Book spare;
     private final Book[] images;
     private final boolean[] imageThere;
     private final Views views;
     private final Reader reader;
-    private final byte[] tape;
-    private int tapeLength;
     private int textFault;
     private final Sheet[] sheets;
     private int readFault;
@@ -33,15 +30,13 @@ public final class BackLenses {
 
     public BackLenses() {
         book = new Book();
-        spare = new Book();
         images = new Book[IMAGES];
         for (int k = 0; k < IMAGES; k++) {
             images[k] = new Book();
         }
         imageThere = new boolean[IMAGES];
         views = new Views();
-        tape = new byte[TAPE_ROOM];
-        reader = new Reader(spare, tape);
+        reader = new Reader();
         sheets = new Sheet[SHEETS];
         for (int k = 0; k < SHEETS; k++) {
             sheets[k] = new Sheet();
@@ -56,31 +51,19 @@ public final class BackLenses {
         if (c < 0 || c > 127) {
             return BAD;
         }
-        if (tapeLength >= TAPE_ROOM) {
-            return FULL;
-        }
-        tape[tapeLength] = (byte) c;
-        tapeLength++;
-        return tapeLength;
+        return reader.put(c);
     }
 
     public int end(int n) {
-        if (n < 0 || n > tapeLength) {
-            return BAD;
-        }
-        int had = tapeLength;
-        tapeLength = n;
-        return had;
+        return reader.shorten(n);
     }
 
     public int text() {
-        // The spare book takes what is read, so that a fault leaves the told one as it was.
-        textFault = reader.readTape(tapeLength);
-        tapeLength = 0;
+        textFault = reader.readTape();
         if (textFault != NO_FAULT) {
             return -10 - reader.place;
         }
-        book.become(spare);
+        book.become(reader.target);
         views.stale = true;
         for (int k = 0; k < IMAGES; k++) {
             imageThere[k] = false;
@@ -525,7 +508,7 @@ public final class BackLenses {
             case 1:
                 return (imageThere[0] ? 1 : 0) + (imageThere[1] ? 1 : 0);
             case 2:
-                return tapeLength;
+                return reader.length;
             case 3:
                 return sheets[0].isNothing() ? NONE : sheets[0].size;
             case 4:
@@ -961,10 +944,11 @@ public final class BackLenses {
         }
     }
 
-    /** Reads a text off the tape token by token, up to the first fault. */
+    /** The tape; reads a text off it token by token, up to the first fault. */
     private static final class Reader {
         private static final int END = 0, NAME = 1, NUMBER = 2, SEMICOLON = 3;
 
+        /** A book of its own takes what is read, so that a fault leaves the told one as it was. */
         private final Book target;
         private final byte[] bytes;
         private int length;
@@ -979,14 +963,31 @@ public final class BackLenses {
         private boolean lastTold;
         private int cellsTold;
 
-        Reader(Book target, byte[] bytes) {
-            this.target = target;
-            this.bytes = bytes;
+        Reader() {
+            target = new Book();
+            bytes = new byte[TAPE_ROOM];
         }
 
-        /** Answers the fault, 0 if there is none; place and lines tell the rest. */
-        int readTape(int n) {
-            length = Math.min(n, bytes.length);
+        int put(int c) {
+            if (length >= TAPE_ROOM) {
+                return FULL;
+            }
+            bytes[length] = (byte) c;
+            length++;
+            return length;
+        }
+
+        int shorten(int n) {
+            if (n < 0 || n > length) {
+                return BAD;
+            }
+            int had = length;
+            length = n;
+            return had;
+        }
+
+        /** Answers the fault, 0 if there is none; place and lines tell the rest, and the tape is empty then. */
+        int readTape() {
             next = 0;
             found = NO_FAULT;
             place = 0;
@@ -1006,6 +1007,7 @@ public final class BackLenses {
             if (found == NO_FAULT && !allIsThere()) {
                 refuse(6, length);
             }
+            length = 0;
             return found;
         }
 

@@ -11,11 +11,14 @@ abstract class Edges {
     static final int LEAST = Integer.MIN_VALUE, MOST = Integer.MAX_VALUE;
     static final int TAPE = 160;
 
-    private static String running = "";
+    private static volatile String running = "";
     private static int asked = 0;
     private static int wrong = 0;
 
+    private static final long MOST_MILLIS = 300_000;
+
     static void run(Class<?> tests) {
+        endAfterLong();
         List<Method> methods = new ArrayList<>();
         for (Method method : tests.getDeclaredMethods()) {
             if (method.getName().startsWith("promise") && Modifier.isStatic(method.getModifiers())) {
@@ -30,6 +33,21 @@ abstract class Edges {
         if (wrong != 0 || methods.isEmpty()) {
             System.exit(1);
         }
+    }
+
+    /** A call that does not end fails its test, too. */
+    private static void endAfterLong() {
+        Thread watch = new Thread(() -> {
+            try {
+                Thread.sleep(MOST_MILLIS);
+            } catch (InterruptedException e) {
+                return;
+            }
+            System.out.println(running + ": has not ended");
+            Runtime.getRuntime().halt(1);
+        });
+        watch.setDaemon(true);
+        watch.start();
     }
 
     private static void runOne(Method method) {

@@ -294,6 +294,13 @@ public final class DayEdgesTest extends Edges {
         due("look(1)", x.look(1), 1);
     }
 
+    static void promise27InTheWidestHouseOnAllDays() {
+        BackLenses x = house("house 4 4;turn 9 15 1;");
+        due("look(0)", x.look(0), 16 * 3 + 15);
+        due("look(1)", x.look(1), 9);
+        due("look(0) of all alike", house("house 4 4;").look(0), NONE);
+    }
+
     static void promise27FewerByOneIsFewer() {
         BackLenses x = house("turn 9 0 1;");
         due("look(0)", x.look(0), 0);
@@ -352,6 +359,14 @@ public final class DayEdgesTest extends Edges {
     static void promise28AlwaysIs1By1() {
         due("likely(0, 0, 0)", new BackLenses().likely(0, 0, 0), 1);
         due("likely(0, 0, 1)", new BackLenses().likely(0, 0, 1), 1);
+    }
+
+    static void promise28OnlyDaysThatFitCount() {
+        // Cell 0 has a chair on days 2 and 3, but day 3 does not fit.
+        BackLenses x = house("last 3;turn 2 0 1;turn 3 1 1;");
+        x.show(1, 1, 0);
+        due("likely(0, 1, 0)", x.likely(0, 1, 0), 1);
+        due("likely(0, 1, 1)", x.likely(0, 1, 1), 3);
     }
 
     static void promise28IsInLowestTerms() {

@@ -230,6 +230,13 @@ public final class LookEdgesTest extends Edges {
         due("all", x.between(1, 2), 15);
     }
 
+    static void promise19InTheWidestHouse() {
+        BackLenses x = house("house 4 4;turn 2 0 1;turn 9 15 1;");
+        due("between(0, 1)", x.between(0, 1), 0);
+        due("between(1, 2)", x.between(1, 2), 1);
+        due("between(8, 9)", x.between(8, 9), 32768);
+    }
+
     static void promise19AChangeAndBackIsAlike() {
         due("between(0, 2)", house("last 2;turn 1 0 1;turn 2 0 0;").between(0, 2), 0);
     }

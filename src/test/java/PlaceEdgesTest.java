@@ -91,6 +91,16 @@ public final class PlaceEdgesTest extends Edges {
         due("places(1)", x.places(1), 8 + 64);
     }
 
+    static void promise31AllTenDaysUnlike() {
+        // Cells 0 and 1 tell all days up to 8, and are seen from 0; days 8 and 9 need cell 15, too.
+        BackLenses x = house("house 4 4;turn1 0 1;turn2 0 2;turn3 0 3;turn4 0 4;turn5 0 5;"
+            + "turn6 1 1;turn7 1 2;turn8 1 3;");
+        due("places(1)", x.places(1), 1);
+        x.turn(9, 15, 1);
+        due("places(0)", x.places(0), 1);
+        due("places(1)", x.places(1), 8);
+    }
+
     static void promise31TheLeastOfSeveralThatServe() {
         due("cell 3 is seen from 1, 2, 3", house("house 2 2;last 1;turn 1 3 1;").places(1), 2);
         due("cell 0 is seen from 0, 1, 2", house("house 2 2;last 1;turn 1 0 1;").places(1), 1);
@@ -134,6 +144,12 @@ public final class PlaceEdgesTest extends Edges {
         due("guard(0, 1)", high.guard(0, 1), 3);
     }
 
+    static void promise32OnTheLastDayOfTheWidestHouse() {
+        BackLenses x = house("house 4 4;turn 9 0 4;");
+        due("guard(9, 0)", x.guard(9, 0), 4);
+        due("guard(9, 1)", x.guard(9, 1), 15);
+    }
+
     static void promise32OnTheDayThatIsAsked() {
         // The door in 2 ends the look south from 0, so that on day 1 another set is the least.
         BackLenses x = house("house 2 4;last 1;turn 1 2 5;");
@@ -168,6 +184,15 @@ public final class PlaceEdgesTest extends Edges {
     static void promise33OneLensIsEnough() {
         BackLenses x = house("house 4 2;last 1;cell 1 4;turn 1 1 0;lens 0;");
         due("hide(0)", x.hide(0), 255 - 1 - 2 - 16);
+    }
+
+    static void promise33OnDaysOfLensesAlone() {
+        BackLenses x = house("house 4 2;last 1;turn 1 1 4;lens 1;");
+        due("hide(0)", x.hide(0), 255 - 1 - 2 - 16);
+    }
+
+    static void promise33SixLenses() {
+        due("hide(0)", house("house 2 2;lens0;lens0;lens0;lens0;lens0;lens9;").hide(0), 8);
     }
 
     static void promise33OnNoDayOfALens() {
@@ -214,6 +239,12 @@ public final class PlaceEdgesTest extends Edges {
         BackLenses x = house("house 2 2;lens 0 0;");
         due("best(0)", x.best(0), 3);
         due("best(1)", x.best(1), 3);
+    }
+
+    static void promise34OnTheLastDayOfTheWidestHouse() {
+        BackLenses x = house("house 4 4;lens 9;");
+        due("best(0)", x.best(0), 0);
+        due("best(1)", x.best(1), 7);
     }
 
     static void promise34NoneIsShown() {

@@ -103,6 +103,16 @@ public final class SheetEdgesTest extends Edges {
         due("all is as it was", state(x).equals(before) ? 1 : 0, 1);
     }
 
+    static void promise39IsSeenAtOnce() {
+        BackLenses x = new BackLenses();
+        x.keep(0);
+        x.first(1, 4);
+        due("sees(0, 0)", x.sees(0, 0), 75);
+        due("back(0)", x.back(0), 0);
+        due("sees(0, 0)", x.sees(0, 0), 79);
+        due("mark(1, 0)", x.mark(1, 0), 0);
+    }
+
     static void promise39TheImageStaysForTheNextTime() {
         BackLenses x = busy();
         x.back(0);
@@ -536,6 +546,14 @@ public final class SheetEdgesTest extends Edges {
         due("full ahead of index", x.read(1, 0, 0, 3), -21);
         x.cut(0, 8);
         due("index ahead of full", x.read(1, 0, 0, 3), 2);
+    }
+
+    static void promise42IsSeenAtOnce() {
+        BackLenses x = laid(0, 3, 3, 1, 4);
+        due("sees(0, 3)", x.sees(0, 3), 79);
+        due("read(1, 0, 0, 1)", x.read(1, 0, 0, 1), 1);
+        due("sees(0, 3)", x.sees(0, 3), 75);
+        due("sees(0, 2)", x.sees(0, 2), 79);
     }
 
     static void promise42OfTheHouseThatThereIs() {

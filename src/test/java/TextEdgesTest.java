@@ -354,6 +354,24 @@ public final class TextEdgesTest extends Edges {
         due("all(0, 9)", x.all(0, 9), 511 - 2);
     }
 
+    static void promise04ATextWithoutAHouseIsThreeByThree() {
+        for (String before : new String[] {"house 2 4;last 3;", "house 4 2;last 3;"}) {
+            BackLenses x = house(before);
+            due("text()", told(x, "cell 8 1;turn 9 8 2;"), 2);
+            due("rule(0)", x.rule(0), 3);
+            due("rule(1)", x.rule(1), 3);
+            due("rule(2)", x.rule(2), 9);
+        }
+    }
+
+    static void promise04IsSeenAtOnce() {
+        BackLenses x = new BackLenses();
+        due("sees(0, 0)", x.sees(0, 0), 79);
+        due("text()", told(x, "cell 1 4;"), 1);
+        due("sees(0, 0)", x.sees(0, 0), 75);
+        due("mark(1, 0)", x.mark(1, 0), 4);
+    }
+
     static void promise04AnEmptyTextIsInPlaceToo() {
         BackLenses x = busy();
         x.end(0);
@@ -490,6 +508,15 @@ public final class TextEdgesTest extends Edges {
         refuses("turm 2 2 2;", 2, 0);
         refuses("lenses 2;", 2, 0);
         refuses("len 2;", 2, 0);
+        refuses("mouse 2 2;", 2, 0);
+        refuses("past 2;", 2, 0);
+        refuses("bell 2 2;", 2, 0);
+        refuses("burn 2 2 2;", 2, 0);
+        refuses("tens 2;", 2, 0);
+        refuses("housf 2 2;", 2, 0);
+        refuses("lasu 2;", 2, 0);
+        refuses("celm 2 2;", 2, 0);
+        refuses("lent 2;", 2, 0);
         refuses("a", 2, 0);
         refuses("z", 2, 0);
         refuses(" last 3; x", 2, 9);
