@@ -152,15 +152,32 @@ public final class LanguageTest {
             }
         }
         for (Class<?> type : BackLenses.class.getDeclaredClasses()) {
-            fewFields(type);
+            fieldsOf(type);
+            parametersOf(type);
         }
-        fewFields(BackLenses.class);
+        fieldsOf(BackLenses.class);
+        parametersOf(BackLenses.class);
+        if (Pattern.compile("\\bstatic\\s*\\{").matcher(bare()).find()) {
+            complain("there is a static initialiser block");
+        }
     }
 
-    private static void fewFields(Class<?> type) {
+    private static void parametersOf(Class<?> type) {
+        for (Method method : type.getDeclaredMethods()) {
+            if (method.getParameterCount() > 7) {
+                complain(method + " takes more than seven parameters");
+            }
+        }
+    }
+
+    private static void fieldsOf(Class<?> type) {
         int fields = 0;
         for (Field field : type.getDeclaredFields()) {
-            fields += Modifier.isStatic(field.getModifiers()) ? 0 : 1;
+            boolean constant = Modifier.isStatic(field.getModifiers());
+            fields += constant ? 0 : 1;
+            if (constant && (!Modifier.isFinal(field.getModifiers()) || !field.getType().isPrimitive())) {
+                complain(field + " is static and no constant");
+            }
         }
         if (fields > 20) {
             complain(type + " has " + fields + " fields");
