@@ -12,7 +12,7 @@ import java.util.TreeMap;
 
 /**
  * What the document says of all calls at once: what is refused changes nothing (but the tape, as told), nor does what
- * only asks; no call throws, whatever it is given; only the answers that a promise names are given.
+ * only asks; no call throws by edge and random numbers; only the answers that a promise names are given.
  */
 public final class TermsTest {
     /** How often each edge comes in each argument's place, by how many arguments there are. */
